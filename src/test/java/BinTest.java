@@ -1,93 +1,244 @@
 /** Promises 6 to 8: bin, pour, about. */
 public final class BinTest {
     public static void main(String[] args) {
-        numbersOfBins();
-        ordinaryPour();
-        fullBin();
-        wrongPours();
-        aboutBins();
+        edgesOfBin();
+        ordinaryPours();
+        edgesOfPour();
+        fullBins();
+        edgesOfAbout();
         Check.end();
     }
 
-    private static void numbersOfBins() {
-        ResidueFlows x = new ResidueFlows();
-        Check.outOfBounds(x, "bin(-1, 5)", () -> x.bin(-1, 5));
-        Check.outOfBounds(x, "bin(4, 0)", () -> x.bin(4, 0));
-        Check.badArgument(x, "bin(0, 0)", () -> x.bin(0, 0));
-        Check.badArgument(x, "bin(0, -1)", () -> x.bin(0, -1));
-        Check.badArgument(x, "bin(3, 1000001)", () -> x.bin(3, 1000001));
-        for (int i = 0; i < 8; i++) {
-            int most = i % 2 == 0 ? 1 : 1000000;
-            Check.equal("bin " + i, x.bin(i % 4, most), i);
-            Check.equal("most of bin " + i, x.about(i, 2), most);
-            Check.equal("kind of bin " + i, x.about(i, 3), i % 4);
-        }
-        Check.badState(x, "a ninth bin", () -> x.bin(0, 5));
-        Check.badArgument(x, "a ninth bin that holds nothing", () -> x.bin(0, 0));
-        Check.outOfBounds(x, "a ninth bin of no kind", () -> x.bin(4, 0));
+    private static void edgesOfBin() {
+        Runs.run("bin: a KIND is 0 .. 3", """
+                bin -1 5 = INDEX
+                bin 0 5 = 0
+                bin 3 5 = 1
+                bin 4 5 = INDEX
+                bin 2147483647 5 = INDEX
+                bin -2147483648 5 = INDEX
+                about 0 3 = 0
+                about 1 3 = 3
+                """);
+        Runs.run("bin: most is 1 .. 1000000", """
+                bin 0 0 = ARGUMENT
+                bin 0 1 = 0
+                bin 1 1000000 = 1
+                bin 1 1000001 = ARGUMENT
+                bin 1 -1 = ARGUMENT
+                bin 1 2147483647 = ARGUMENT
+                bin 1 -2147483648 = ARGUMENT
+                about 0 2 = 1
+                about 1 2 = 1000000
+                """);
+        Runs.run("bin: there are 8, and a ninth has no room", """
+                bin 0 1 = 0
+                bin 1 2 = 1
+                bin 2 3 = 2
+                bin 3 4 = 3
+                bin 0 5 = 4
+                bin 1 6 = 5
+                bin 2 7 = 6
+                bin 3 8 = 7
+                bin 0 9 = STATE
+                about 0 2 = 1
+                about 4 2 = 5
+                about 4 3 = 0
+                about 7 2 = 8
+                about 7 3 = 3
+                about 8 2 = INDEX
+                """);
+        Runs.run("bin: of several exceptions the one named first", """
+                bin 4 0 = INDEX
+                bin -1 1000001 = INDEX
+                bin 0 1 = 0
+                bin 0 1 = 1
+                bin 0 1 = 2
+                bin 0 1 = 3
+                bin 0 1 = 4
+                bin 0 1 = 5
+                bin 0 1 = 6
+                bin 0 1 = 7
+                bin 4 1 = INDEX
+                bin 4 0 = INDEX
+                bin 0 0 = ARGUMENT
+                bin 0 1000001 = ARGUMENT
+                bin 0 1 = STATE
+                """);
+        Runs.run("bin: its number; one that throws is none", """
+                bin 4 5 = INDEX
+                bin 0 0 = ARGUMENT
+                bin 0 5 = 0
+                bin -1 5 = INDEX
+                bin 0 1000001 = ARGUMENT
+                bin 0 5 = 1
+                """);
     }
 
-    private static void ordinaryPour() {
-        ResidueFlows x = new ResidueFlows();
-        x.bin(2, 100);
-        Check.equal("pour(0, 7, 333)", x.pour(0, 7, 333), true);
-        Check.equal("DRY", x.about(0, 0), 4669);
-        Check.equal("WATER", x.about(0, 1), 2331);
-        Check.equal("pour(0, 3, 1000)", x.pour(0, 3, 1000), true);
-        Check.equal("pour(0, 2, 0)", x.pour(0, 2, 0), true);
-        Check.equal("DRY", x.about(0, 0), 6669);
-        Check.equal("WATER", x.about(0, 1), 5331);
-        Check.equal("all grams", x.about(0, 5), 12000);
-        Check.equal("IN", x.shift(1), 12000);
+    private static void ordinaryPours() {
+        Runs.run("pour: WATER grows by kilograms * w grams, DRY by kilograms * (1000 - w)", """
+                bin 2 100 = 0
+                bin 2 100 = 1
+                pour 0 7 333 = true
+                about 0 0 = 4669
+                about 0 1 = 2331
+                pour 0 3 999 = true
+                pour 0 2 1 = true
+                about 0 0 = 6670
+                about 0 1 = 5330
+                about 0 5 = 12000
+                about 1 5 = 0
+                shift 1 = 12000
+                """);
     }
 
-    private static void fullBin() {
-        ResidueFlows x = new ResidueFlows();
-        x.bin(0, 10);
-        x.bin(1, 1000000);
-        Check.equal("one more than it holds", x.pour(0, 11, 0), false);
-        Check.equal("nothing was poured", x.about(0, 5), 0);
-        Check.equal("just what it holds", x.pour(0, 10, 500), true);
-        Check.equal("nothing into a full bin", x.pour(0, 0, 1000), true);
-        Check.equal("one into a full bin", x.pour(0, 1, 0), false);
-        Check.equal("the largest bin", x.pour(1, 1000000, 1000), true);
-        Check.equal("the largest again", x.pour(1, 1000000, 1000), false);
-        Check.equal("WATER of the largest", x.about(1, 1), 1000000000L);
-        Check.equal("DRY of the largest", x.about(1, 0), 0);
-        Check.equal("IN without what was not poured", x.shift(1), 1000010000L);
+    private static void edgesOfPour() {
+        Runs.run("pour: there is no such bin", """
+                pour -1 1 1 = INDEX
+                pour 0 1 1 = INDEX
+                bin 0 10 = 0
+                pour 0 1 1 = true
+                pour 1 1 1 = INDEX
+                bin 0 10 = 1
+                pour 1 1 1 = true
+                pour 2 0 0 = INDEX
+                pour 8 1 1 = INDEX
+                pour 2147483647 1 1 = INDEX
+                pour -2147483648 1 1 = INDEX
+                """);
+        Runs.run("pour: kilograms are 0 .. 1000000", """
+                bin 0 1000000 = 0
+                pour 0 -1 0 = ARGUMENT
+                pour 0 0 0 = true
+                about 0 5 = 0
+                pour 0 1000000 0 = true
+                about 0 0 = 1000000000
+                pour 0 1000001 0 = ARGUMENT
+                pour 0 2147483647 0 = ARGUMENT
+                pour 0 -2147483648 0 = ARGUMENT
+                """);
+        Runs.run("pour: water is 0 .. 1000", """
+                bin 0 100 = 0
+                pour 0 1 -1 = ARGUMENT
+                pour 0 1 0 = true
+                about 0 0 = 1000
+                about 0 1 = 0
+                pour 0 2 1000 = true
+                about 0 0 = 1000
+                about 0 1 = 2000
+                pour 0 1 1001 = ARGUMENT
+                pour 0 1 2147483647 = ARGUMENT
+                pour 0 1 -2147483648 = ARGUMENT
+                pour 0 0 1001 = ARGUMENT
+                """);
+        Runs.run("pour: IndexOutOfBoundsException is named before IllegalArgumentException", """
+                pour 0 -1 0 = INDEX
+                bin 0 10 = 0
+                pour 1 1000001 0 = INDEX
+                pour -1 1 1001 = INDEX
+                """);
+        Runs.run("pour: kilograms or water that are not as said throw, even if the bin is full", """
+                bin 0 1 = 0
+                pour 0 1 0 = true
+                pour 0 1000001 0 = ARGUMENT
+                pour 0 1 1001 = ARGUMENT
+                pour 0 1000000 1000 = false
+                """);
     }
 
-    private static void wrongPours() {
-        ResidueFlows x = new ResidueFlows();
-        Check.outOfBounds(x, "pour without a bin", () -> x.pour(0, 1, 1));
-        x.bin(0, 1000);
-        Check.outOfBounds(x, "pour(1, 1, 1)", () -> x.pour(1, 1, 1));
-        Check.outOfBounds(x, "pour(-1, -1, 1)", () -> x.pour(-1, -1, 1));
-        Check.outOfBounds(x, "pour(8, 1, 1)", () -> x.pour(8, 1, 1));
-        Check.badArgument(x, "pour(0, -1, 1)", () -> x.pour(0, -1, 1));
-        Check.badArgument(x, "pour(0, 1000001, 1)", () -> x.pour(0, 1000001, 1));
-        Check.badArgument(x, "pour(0, 1, -1)", () -> x.pour(0, 1, -1));
-        Check.badArgument(x, "pour(0, 1, 1001)", () -> x.pour(0, 1, 1001));
-        Check.equal("pour(0, 1000000, 1)", x.pour(0, 1000000, 1), false);
+    private static void fullBins() {
+        Runs.run("pour: whatever would make it more than full is not poured at all", """
+                bin 0 10 = 0
+                pour 0 11 0 = false
+                about 0 5 = 0
+                shift 1 = 0
+                pour 0 1000000 500 = false
+                pour 0 9 500 = true
+                pour 0 2 500 = false
+                about 0 5 = 9000
+                pour 0 1 500 = true
+                about 0 5 = 10000
+                pour 0 1 0 = false
+                pour 0 1 1000 = false
+                about 0 0 = 5000
+                about 0 1 = 5000
+                shift 1 = 10000
+                """);
+        Runs.run("pour: nothing does not make a full bin more than full", """
+                bin 0 1 = 0
+                pour 0 1 1000 = true
+                pour 0 0 0 = true
+                pour 0 0 1000 = true
+                about 0 5 = 1000
+                """);
+        Runs.run("pour: the largest bin, full of water", """
+                bin 0 1000000 = 0
+                pour 0 1000000 1000 = true
+                about 0 0 = 0
+                about 0 1 = 1000000000
+                pour 0 1 1000 = false
+                pour 0 1000000 1000 = false
+                """);
+        Runs.run("pour: what was taken away leaves room", """
+                bin 0 10 = 0
+                pour 0 10 500 = true
+                sell 0 3 0 = 0
+                pour 0 4 500 = false
+                pour 0 3 500 = true
+                about 0 5 = 10000
+                """);
     }
 
-    private static void aboutBins() {
-        ResidueFlows x = new ResidueFlows();
-        x.bin(3, 77);
-        x.bin(1, 88);
-        x.pour(1, 5, 100);
-        x.scale(1, 4321);
-        long[] due = {4500, 500, 88, 1, 4321, 5000};
-        for (int what = 0; what < 6; what++) {
-            Check.equal("about(1, " + what + ")", x.about(1, what), due[what]);
-        }
-        long[] untouched = {0, 0, 77, 3, -1, 0};
-        for (int what = 0; what < 6; what++) {
-            Check.equal("about(0, " + what + ")", x.about(0, what), untouched[what]);
-        }
-        Check.outOfBounds(x, "about(0, -1)", () -> x.about(0, -1));
-        Check.outOfBounds(x, "about(0, 6)", () -> x.about(0, 6));
-        Check.outOfBounds(x, "about(2, 0)", () -> x.about(2, 0));
-        Check.outOfBounds(x, "about(-1, 0)", () -> x.about(-1, 0));
+    private static void edgesOfAbout() {
+        Runs.run("about: DRY (0), WATER (1), most (2), KIND (3), the latest reading (4), all grams (5)", """
+                bin 3 77 = 0
+                bin 1 88 = 1
+                pour 1 5 100 = true
+                scale 1 4321
+                about 1 0 = 4500
+                about 1 1 = 500
+                about 1 2 = 88
+                about 1 3 = 1
+                about 1 4 = 4321
+                about 1 5 = 5000
+                """);
+        Runs.run("about: an empty bin", """
+                bin 3 77 = 0
+                about 0 0 = 0
+                about 0 1 = 0
+                about 0 2 = 77
+                about 0 3 = 3
+                about 0 4 = NONE
+                about 0 5 = 0
+                """);
+        Runs.run("about: there is no such what", """
+                bin 0 10 = 0
+                about 0 -1 = INDEX
+                about 0 6 = INDEX
+                about 0 2147483647 = INDEX
+                about 0 -2147483648 = INDEX
+                """);
+        Runs.run("about: there is no such bin", """
+                about 0 0 = INDEX
+                about 0 6 = INDEX
+                bin 0 10 = 0
+                about 0 0 = 0
+                about -1 0 = INDEX
+                about 1 2 = INDEX
+                about 8 2 = INDEX
+                about 2147483647 0 = INDEX
+                about -2147483648 0 = INDEX
+                """);
+        Runs.run("about: the latest reading of this shift, NONE without one", """
+                bin 0 10 = 0
+                about 0 4 = NONE
+                scale 0 5
+                scale 0 0
+                about 0 4 = 0
+                scale 0 10*100000000000
+                about 0 4 = 10*100000000000
+                begin
+                about 0 4 = NONE
+                """);
     }
 }

@@ -8,12 +8,15 @@ import java.util.Random;
  * and works with BigInteger, so that order, wrap-around and forgotten state would show.
  */
 public final class ModelTest {
-    private static final int RUNS = 100;
-    private static final int CALLS = 512;
+    private static final int RUNS = 600;
     private static final int[] ODD = {Integer.MIN_VALUE, -1, 0, 1, Integer.MAX_VALUE};
+    private static final String[] NAMES = {"share", "log", "bin", "pour", "screen", "send", "scale", "begin", "row",
+        "burn", "sell", "span", "mix", "volume", "boards", "about", "shift", "carbon"};
+    /** How often each of them is called, of 100 times. */
+    private static final int[] OFTEN = {3, 4, 4, 12, 4, 10, 4, 1, 2, 8, 6, 3, 8, 5, 2, 17, 5, 2};
 
     private final Random random;
-    private final ResidueFlows real = new ResidueFlows();
+    private final Mill real = new Mill();
     private final Model model = new Model();
     private final StringBuilder history = new StringBuilder();
     private final boolean large;
@@ -33,19 +36,33 @@ public final class ModelTest {
     }
 
     private boolean runIsRight() {
-        for (int call = 0; call < CALLS; call++) {
-            String before = Check.stateOf(real);
-            String[] answers = oneCall();
-            String after = Check.stateOf(real);
-            boolean right = answers[0].equals(answers[1]) && after.equals(model.state())
-                    && (!answers[0].startsWith("throws.") || after.equals(before));
-            if (!right) {
-                Check.report(history + "\nanswered " + answers[0] + ", due is " + answers[1]
-                        + "\n  got " + after + "\n  due " + model.state());
+        for (int call = 0; call < Mill.MOST_CALLS; call++) {
+            String name = nextName();
+            long[] n = numbersFor(name);
+            StringBuilder row = new StringBuilder(name);
+            for (int i = 0; i < n.length; i++) {
+                boolean truth = i == n.length - 1 && (name.equals("volume") || name.equals("boards"));
+                row.append(' ').append(truth ? "" + (n[i] == 1) : "" + n[i]);
+            }
+            String due = model.answerOf(name, n);
+            String got = real.call(row.toString());
+            history.append(row).append(" = ").append(due).append('\n');
+            if (!got.equals(due)) {
+                Check.report(history + "but the last one answered " + got);
                 return false;
             }
         }
         return true;
+    }
+
+    private String nextName() {
+        int chance = random.nextInt(100);
+        int at = 0;
+        while (chance >= OFTEN[at]) {
+            chance -= OFTEN[at];
+            at++;
+        }
+        return NAMES[at];
     }
 
     /** Mostly within low .. high, often an edge of it, sometimes one beyond or far off. */
@@ -71,49 +88,30 @@ public final class ModelTest {
         return number(0, Math.max(0, model.bins.size() - 1));
     }
 
-    private String[] oneCall() {
-        int which = random.nextInt(16);
-        int[] n = new int[6];
-        switch (which) {
-            case 0: n = new int[] {number(0, 1), number(0, 10), number(1, 10)}; break;
-            case 1: n = new int[] {number(1, 1000), number(0, 800), number(0, 800)}; break;
-            case 2: n = new int[] {number(0, random.nextInt(4)), large ? number(1, 1000000) : number(20, 200)}; break;
-            case 3: case 4: n = new int[] {binNumber(), kilograms(), number(0, 1000)}; break;
-            case 5: n = new int[] {number(0, 3), binNumber(), binNumber(), binNumber(), number(0, 40), number(0, 40)};
-                break;
-            case 6: case 7: n = new int[] {number(0, 3), kilograms(), number(0, 1000)}; break;
-            case 8: n = new int[] {binNumber(), number(0, large ? 2000000000 : 200000)}; break;
-            case 9: n = new int[] {random.nextInt(10)}; break;
-            case 10: n = new int[] {number(0, 364), number(0, 200)}; break;
-            case 11: case 12: n = new int[] {binNumber(), kilograms(), number(0, 364)}; break;
-            case 13: n = new int[] {binNumber(), kilograms(), number(0, 1000000)}; break;
-            case 14: n = new int[] {binNumber(), number(0, 600), number(400, 1000)}; break;
-            default: n = new int[] {binNumber(), binNumber(), kilograms()}; break;
-        }
-        int[] at = n;
-        history.append(which).append(java.util.Arrays.toString(n)).append(' ');
-        return new String[] {Check.answerOf(() -> ofReal(which, at)), Check.answerOf(() -> model.call(which, at))};
+    private int truth() {
+        return random.nextInt(2);
     }
 
-    private static long bit(boolean answer) {
-        return answer ? 1 : 0;
-    }
-
-    private long ofReal(int which, int[] n) {
-        switch (which) {
-            case 0: real.share(n[0], n[1], n[2]); return 0;
-            case 1: return real.log(n[0], n[1], n[2]);
-            case 2: return real.bin(n[0], n[1]);
-            case 3: case 4: return bit(real.pour(n[0], n[1], n[2]));
-            case 5: real.screen(n[0], n[1], n[2], n[3], n[4], n[5]); return 0;
-            case 6: case 7: return bit(real.send(n[0], n[1], n[2]));
-            case 8: real.scale(n[0], n[1] * 500L); return 0;
-            case 9: if (n[0] == 0) { real.begin(); } return 0;
-            case 10: return real.row(n[0], n[1]);
-            case 11: case 12: return real.burn(n[0], n[1], n[2]);
-            case 13: return real.sell(n[0], n[1], n[2]);
-            case 14: real.span(n[0], n[1], n[2]); return 0;
-            default: return bit(real.mix(n[0], n[1], n[2]));
+    private long[] numbersFor(String name) {
+        switch (name) {
+            case "share": return new long[] {number(0, 1), number(0, 10), number(1, 10)};
+            case "log": return new long[] {number(1, 1000), number(0, 800), number(0, 800)};
+            case "bin": return new long[] {number(0, random.nextInt(4)), large ? number(1, 1000000) : number(20, 200)};
+            case "screen": return new long[] {number(0, 3), binNumber(), binNumber(), binNumber(), number(0, 40),
+                number(0, 40)};
+            case "send": return new long[] {number(0, 3), kilograms(), number(0, 1000)};
+            case "scale": return new long[] {binNumber(), number(0, large ? 2000000000 : 200000) * 500L};
+            case "row": return new long[] {number(0, 364), number(0, 200)};
+            case "burn": return new long[] {binNumber(), kilograms(), number(0, 364)};
+            case "sell": return new long[] {binNumber(), kilograms(), number(0, 1000000)};
+            case "span": return new long[] {binNumber(), number(0, 600), number(400, 1000)};
+            case "mix": return new long[] {binNumber(), binNumber(), kilograms()};
+            case "volume": return new long[] {number(0, 3), truth()};
+            case "boards": return new long[] {truth()};
+            case "about": return new long[] {binNumber(), number(0, 5)};
+            case "shift": return new long[] {number(0, 3)};
+            case "pour": return new long[] {binNumber(), kilograms(), number(0, 1000)};
+            default: return new long[0];
         }
     }
 
@@ -149,21 +147,41 @@ public final class ModelTest {
         final List<Long> gone = new ArrayList<>();
         int shifts = 0;
 
-        long call(int which, int[] n) {
-            switch (which) {
-                case 0: return tellShare(n);
-                case 1: return tellLog(n);
-                case 2: return tellBin(n);
-                case 3: case 4: return pour(n);
-                case 5: return tellScreen(n);
-                case 6: case 7: return send(n);
-                case 8: return read(n);
-                case 9: return n[0] == 0 ? beginShift() : 0;
-                case 10: return tellRow(n);
-                case 11: case 12: return burn(n);
-                case 13: return sell(n);
-                case 14: return tellSpan(n);
-                default: return mix(n);
+        /** As Mill.call writes it. */
+        String answerOf(String name, long[] numbers) {
+            int[] n = new int[numbers.length];
+            for (int i = 0; i < n.length; i++) {
+                n[i] = (int) numbers[i];
+            }
+            try {
+                switch (name) {
+                    case "pour": return "" + pour(n);
+                    case "send": return "" + send(n);
+                    case "mix": return "" + mix(n);
+                    case "share": tellShare(n); return Mill.DONE;
+                    case "screen": tellScreen(n); return Mill.DONE;
+                    case "scale": read(n[0], numbers[1]); return Mill.DONE;
+                    case "begin": beginShift(); return Mill.DONE;
+                    case "span": tellSpan(n); return Mill.DONE;
+                    default: return "" + number(name, n);
+                }
+            } catch (RuntimeException e) {
+                return "throws." + e.getClass().getSimpleName();
+            }
+        }
+
+        BigInteger number(String name, int[] n) {
+            switch (name) {
+                case "log": return big(tellLog(n));
+                case "bin": return big(tellBin(n));
+                case "row": return big(tellRow(n));
+                case "burn": return big(burn(n));
+                case "sell": return big(sell(n));
+                case "volume": index(n[0], 4); return parts(n[0], n[1] == 1);
+                case "boards": return parts(4, n[0] == 1);
+                case "about": return about(at(n[0]), n[1]);
+                case "shift": return shift(n[0]);
+                default: return carbon();
             }
         }
 
@@ -194,11 +212,10 @@ public final class ModelTest {
             return bins.get(n);
         }
 
-        long tellShare(int[] n) {
+        void tellShare(int[] n) {
             index(n[0], 2);
             argument(within(n[2], 1, 10) && within(n[1], 0, n[2]));
             shares[n[0]] = new int[] {n[1], n[2]};
-            return 0;
         }
 
         static BigInteger part(BigInteger of, int[] share) {
@@ -239,17 +256,17 @@ public final class ModelTest {
             poured.add(kilograms * 1000);
         }
 
-        long pour(int[] n) {
+        boolean pour(int[] n) {
             ModelBin bin = at(n[0]);
             argument(within(n[1], 0, 1000000) && within(n[2], 0, 1000));
             if (!bin.holds(n[1])) {
-                return 0;
+                return false;
             }
             fill(bin, n[1], n[2]);
-            return 1;
+            return true;
         }
 
-        long tellScreen(int[] n) {
+        void tellScreen(int[] n) {
             index(n[0], 4);
             ModelBin[] outs = {at(n[1]), at(n[2]), at(n[3])};
             long third = 60L - n[4] - n[5];
@@ -257,10 +274,9 @@ public final class ModelTest {
             argument(outs[0].kind == outs[1].kind && outs[1].kind == outs[2].kind);
             argument(n[4] >= 0 && n[5] >= 0 && third >= 0);
             screens[n[0]] = new int[] {n[1], n[2], n[3], n[4], n[5], (int) third};
-            return 0;
         }
 
-        long send(int[] n) {
+        boolean send(int[] n) {
             index(n[0], 4);
             argument(within(n[1], 0, 1000000) && within(n[2], 0, 1000));
             int[] screen = screens[n[0]];
@@ -274,30 +290,28 @@ public final class ModelTest {
             parts[0] += left;
             for (int k = 0; k < 3; k++) {
                 if (!at(screen[k]).holds(parts[k])) {
-                    return 0;
+                    return false;
                 }
             }
             for (int k = 0; k < 3; k++) {
                 fill(at(screen[k]), parts[k], n[2]);
             }
-            return 1;
+            return true;
         }
 
-        long read(int[] n) {
-            ModelBin bin = at(n[0]);
-            argument(within(n[1] * 500L, 0, 1000000000000L));
-            bin.reading = n[1] * 500L;
-            return 0;
+        void read(int number, long grams) {
+            ModelBin bin = at(number);
+            argument(within(grams, 0, 1000000000000L));
+            bin.reading = grams;
         }
 
-        long beginShift() {
+        void beginShift() {
             for (ModelBin bin : bins) {
                 bin.reading = null;
             }
             poured.clear();
             gone.clear();
             shifts++;
-            return 0;
         }
 
         long tellRow(int[] n) {
@@ -346,15 +360,14 @@ public final class ModelTest {
             return taken[1].multiply(big(n[2])).divide(big(1000000)).longValueExact();
         }
 
-        long tellSpan(int[] n) {
+        void tellSpan(int[] n) {
             ModelBin bin = at(n[0]);
             argument(n[1] >= 0 && within(n[2], n[1], 1000));
             bin.low = n[1];
             bin.high = n[2];
-            return 0;
         }
 
-        long mix(int[] n) {
+        boolean mix(int[] n) {
             ModelBin from = at(n[0]);
             ModelBin to = at(n[1]);
             argument(n[0] != n[1] && within(n[2], 1, 1000000));
@@ -363,54 +376,52 @@ public final class ModelTest {
             BigInteger all = to.all().add(taken[0]).add(taken[1]);
             long thousandths = water.multiply(big(1000)).divide(all).longValueExact();
             if (!within(thousandths, to.low, to.high) || !to.holds(n[2])) {
-                return 0;
+                return false;
             }
             take(from, taken);
             to.water = water;
             to.dry = to.dry.add(taken[1]);
-            return 1;
+            return true;
         }
 
-        static long sum(List<Long> numbers) {
-            long sum = 0;
+        static BigInteger sum(List<Long> numbers) {
+            BigInteger sum = big(0);
             for (long number : numbers) {
-                sum += number;
+                sum = sum.add(big(number));
             }
             return sum;
         }
 
-        String partsOf(boolean all) {
-            StringBuilder text = new StringBuilder();
-            for (int part = 0; part < 5; part++) {
-                BigInteger sum = big(0);
-                for (int i = all ? 0 : logs.size() - 1; i >= 0 && i < logs.size(); i++) {
-                    sum = sum.add(logs.get(i)[part]);
-                }
-                text.append(logs.isEmpty() ? "throws.IllegalStateException" : sum.toString()).append(' ');
+        BigInteger parts(int part, boolean all) {
+            state(!logs.isEmpty());
+            BigInteger sum = big(0);
+            for (int i = all ? 0 : logs.size() - 1; i < logs.size(); i++) {
+                sum = sum.add(logs.get(i)[part]);
             }
-            return text.toString();
+            return sum;
         }
 
-        /** As Check.stateOf writes it. */
-        String state() {
-            StringBuilder text = new StringBuilder(partsOf(false)).append(partsOf(true));
-            BigInteger dry = big(0);
+        BigInteger about(ModelBin bin, int what) {
+            index(what, 6);
+            BigInteger reading = big(bin.reading == null ? -1 : bin.reading);
+            return new BigInteger[] {bin.dry, bin.water, big(bin.most), big(bin.kind), reading, bin.all()}[what];
+        }
+
+        BigInteger shift(int what) {
+            index(what, 4);
             BigInteger lost = big(0);
-            for (int i = 0; i < 8; i++) {
-                text.append("| ");
-                if (i >= bins.size()) {
-                    text.append("throws.IndexOutOfBoundsException ".repeat(6));
-                    continue;
-                }
-                ModelBin bin = bins.get(i);
-                dry = dry.add(bin.dry);
-                long reading = bin.reading == null ? -1 : bin.reading;
-                lost = bin.reading == null ? lost : lost.add(bin.all()).subtract(big(reading));
-                text.append(bin.dry).append(' ').append(bin.water).append(' ').append(bin.most).append(' ')
-                        .append(bin.kind).append(' ').append(reading).append(' ').append(bin.all()).append(' ');
+            for (ModelBin bin : bins) {
+                lost = bin.reading == null ? lost : lost.add(bin.all()).subtract(big(bin.reading));
             }
-            text.append("| ").append(lost).append(' ').append(sum(poured)).append(' ').append(sum(gone)).append(' ');
-            return text.append(shifts).append(' ').append(dry.divide(big(2))).toString();
+            return new BigInteger[] {lost, sum(poured), sum(gone), big(shifts)}[what];
+        }
+
+        BigInteger carbon() {
+            BigInteger dry = big(0);
+            for (ModelBin bin : bins) {
+                dry = dry.add(bin.dry);
+            }
+            return dry.divide(big(2));
         }
     }
 }

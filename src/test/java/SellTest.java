@@ -3,56 +3,105 @@ public final class SellTest {
     public static void main(String[] args) {
         prices();
         proportions();
-        wrongSales();
+        edges();
         Check.end();
     }
 
     private static void prices() {
-        ResidueFlows x = new ResidueFlows();
-        x.bin(1, 1000000);
-        x.pour(0, 1000, 400);
-        Check.equal("half a ton of 40 % water", x.sell(0, 500, 12345), 3703);
-        Check.equal("DRY that is left", x.about(0, 0), 300000);
-        Check.equal("WATER that is left", x.about(0, 1), 200000);
-        Check.equal("OUT", x.shift(2), 500000);
-        Check.equal("for nothing", x.sell(0, 100, 0), 0);
-        Check.equal("just below a cent", x.sell(0, 1, 1666), 0);
-        Check.equal("just a cent", x.sell(0, 1, 1667), 1);
-        x.sell(0, 398, 1);
-        x.pour(0, 1000000, 0);
-        Check.equal("the dearest sale", x.sell(0, 1000000, 1000000), 1000000000L);
-        Check.equal("nothing is left", x.about(0, 5), 0);
-        x.pour(0, 10, 1000);
-        Check.equal("water alone", x.sell(0, 10, 1000000), 0);
+        Runs.run("sell: DRY grams * cents / 1000000", """
+                bin 1 1000 = 0
+                pour 0 1000 400 = true
+                sell 0 500 12345 = 3703
+                about 0 0 = 300000
+                about 0 1 = 200000
+                shift 2 = 500000
+                """);
+        Runs.run("sell: cents are cut off", """
+                bin 1 1000 = 0
+                pour 0 100 0 = true
+                sell 0 1 999 = 0
+                sell 0 1 1000 = 1
+                sell 0 1 1999 = 1
+                sell 0 1 2000 = 2
+                """);
+        Runs.run("sell: water is for nothing", """
+                bin 1 10 = 0
+                pour 0 10 1000 = true
+                sell 0 10 1000000 = 0
+                about 0 5 = 0
+                shift 2 = 10000
+                """);
     }
 
     private static void proportions() {
-        ResidueFlows x = new ResidueFlows();
-        x.bin(0, 100);
-        x.pour(0, 2, 1);
-        x.pour(0, 1, 0);
-        // 2 * 1000 / 3000 is cut off to 0, so that a whole kilogram of dry wood is sold.
-        Check.equal("sell(0, 1, 1000)", x.sell(0, 1, 1000), 1);
-        Check.equal("WATER after it", x.about(0, 1), 2);
-        Check.equal("DRY after it", x.about(0, 0), 1998);
-        Check.equal("sell(0, 1, 1000) of wet wood", x.sell(0, 1, 1000), 0);
-        Check.equal("WATER after that", x.about(0, 1), 1);
+        Runs.run("sell: WATER goes as it is BURNED, cut off; the rest DRY", """
+                bin 0 100 = 0
+                pour 0 2 1 = true
+                pour 0 1 0 = true
+                sell 0 1 1000 = 1
+                about 0 1 = 2
+                about 0 0 = 1998
+                sell 0 1 1000 = 0
+                about 0 1 = 1
+                about 0 0 = 999
+                """);
     }
 
-    private static void wrongSales() {
-        ResidueFlows x = new ResidueFlows();
-        Check.outOfBounds(x, "sell without a bin", () -> x.sell(0, 1, 1));
-        x.bin(0, 1000);
-        Check.badState(x, "sell of an empty bin", () -> x.sell(0, 1, 1));
-        x.pour(0, 10, 300);
-        Check.outOfBounds(x, "sell(1, 0, 1)", () -> x.sell(1, 0, 1));
-        Check.outOfBounds(x, "sell(-1, 1, 1)", () -> x.sell(-1, 1, 1));
-        Check.badArgument(x, "sell(0, 0, 1)", () -> x.sell(0, 0, 1));
-        Check.badArgument(x, "sell(0, -1, 1)", () -> x.sell(0, -1, 1));
-        Check.badArgument(x, "sell(0, 1000001, 1)", () -> x.sell(0, 1000001, 1));
-        Check.badArgument(x, "sell(0, 11, -1)", () -> x.sell(0, 11, -1));
-        Check.badArgument(x, "sell(0, 11, 1000001)", () -> x.sell(0, 11, 1000001));
-        Check.badState(x, "sell(0, 11, 1)", () -> x.sell(0, 11, 1));
-        Check.equal("all of it", x.sell(0, 10, 1000000), 7000);
+    private static void edges() {
+        String bin = "bin 0 1000000 = 0\npour 0 10 300 = true\n";
+        Runs.run("sell: there is no such bin", """
+                sell 0 1 0 = INDEX
+                bin 0 10 = 0
+                pour 0 10 0 = true
+                sell 0 1 1000 = 1
+                sell -1 1 0 = INDEX
+                sell 1 1 0 = INDEX
+                sell 8 1 0 = INDEX
+                sell 2147483647 1 0 = INDEX
+                sell -2147483648 1 0 = INDEX
+                """);
+        Runs.run("sell: kilograms are 1 .. 1000000", """
+                bin 0 1000000 = 0
+                pour 0 1000000 0 = true
+                sell 0 0 0 = ARGUMENT
+                sell 0 -1 0 = ARGUMENT
+                sell 0 1000001 0 = ARGUMENT
+                sell 0 2147483647 0 = ARGUMENT
+                sell 0 -2147483648 0 = ARGUMENT
+                sell 0 1000000 1000000 = 1000000000
+                about 0 5 = 0
+                pour 0 1 0 = true
+                sell 0 1 1000000 = 1000
+                """);
+        Runs.run("sell: cents are 0 .. 1000000", bin + """
+                sell 0 1 -1 = ARGUMENT
+                sell 0 1 0 = 0
+                sell 0 1 1000000 = 700
+                sell 0 1 1000001 = ARGUMENT
+                sell 0 1 2147483647 = ARGUMENT
+                sell 0 1 -2147483648 = ARGUMENT
+                """);
+        Runs.run("sell: there is not so much", bin + """
+                sell 0 11 0 = STATE
+                sell 0 1000000 0 = STATE
+                sell 0 9 1000000 = 6300
+                sell 0 2 0 = STATE
+                sell 0 1 1000000 = 700
+                about 0 0 = 0
+                about 0 1 = 0
+                sell 0 1 0 = STATE
+                """);
+        Runs.run("sell: nothing is in an empty bin", """
+                bin 0 10 = 0
+                sell 0 1 0 = STATE
+                """);
+        Runs.run("sell: of several exceptions the one named first", bin + """
+                sell 1 0 0 = INDEX
+                sell -1 1 1000001 = INDEX
+                sell 1 11 0 = INDEX
+                sell 0 1000001 0 = ARGUMENT
+                sell 0 11 -1 = ARGUMENT
+                sell 0 11 1000001 = ARGUMENT
+                """);
     }
 }

@@ -1,99 +1,256 @@
 /** Promises 11 to 13: scale, shift, begin. */
 public final class ShiftTest {
     public static void main(String[] args) {
-        readings();
+        edgesOfScale();
+        lost();
         inAndOut();
+        edgesOfShift();
         begins();
-        wrongInputs();
         Check.end();
     }
 
-    private static void readings() {
-        ResidueFlows x = new ResidueFlows();
-        x.bin(0, 100);
-        x.bin(1, 100);
-        x.bin(2, 100);
-        x.pour(0, 50, 500);
-        x.pour(1, 20, 100);
-        x.pour(2, 90, 0);
-        Check.equal("LOST without a reading", x.shift(0), 0);
-        x.scale(0, 49000);
-        Check.equal("LOST by one reading", x.shift(0), 1000);
-        x.scale(1, 20500);
-        Check.equal("LOST by two readings", x.shift(0), 500);
-        x.scale(0, 0);
-        Check.equal("LOST by the latest readings", x.shift(0), 49500);
-        Check.equal("the latest reading, 0", x.about(0, 4), 0);
-        Check.equal("no reading", x.about(2, 4), ResidueFlows.NONE);
-        Check.equal("the bin is as it was", x.about(0, 5), 50000);
-        x.pour(1, 10, 0);
-        Check.equal("LOST goes with what the bin has", x.shift(0), 59500);
-        x.scale(2, 1000000000000L);
-        Check.equal("LOST below 0", x.shift(0), 59500 + 90000 - 1000000000000L);
+    private static void edgesOfScale() {
+        Runs.run("scale: there is no such bin", """
+                scale 0 1 = INDEX
+                bin 0 10 = 0
+                scale 0 1
+                scale -1 1 = INDEX
+                scale 1 1 = INDEX
+                scale 8 1 = INDEX
+                scale 2147483647 1 = INDEX
+                scale -2147483648 1 = INDEX
+                about 0 4 = 1
+                """);
+        Runs.run("scale: grams are 0 .. 10^12", """
+                bin 0 10 = 0
+                scale 0 -1 = ARGUMENT
+                about 0 4 = NONE
+                scale 0 0
+                about 0 4 = 0
+                scale 0 1000000000000
+                about 0 4 = 1000000000000
+                scale 0 1000000000001 = ARGUMENT
+                scale 0 9223372036854775807 = ARGUMENT
+                scale 0 -9223372036854775808 = ARGUMENT
+                about 0 4 = 1000000000000
+                shift 0 = -1000000000000
+                """);
+        Runs.run("scale: a reading beyond 32 bits is kept whole", """
+                bin 0 10 = 0
+                scale 0 4294967296
+                about 0 4 = 4294967296
+                scale 0 4294967295
+                about 0 4 = 4294967295
+                """);
+        Runs.run("scale: IndexOutOfBoundsException is named before IllegalArgumentException", """
+                scale 0 -1 = INDEX
+                bin 0 10 = 0
+                scale 1 1000000000001 = INDEX
+                scale -1 -1 = INDEX
+                """);
+        Runs.run("scale: a reading does not change the bin, whatever its most is", """
+                bin 0 10 = 0
+                pour 0 10 250 = true
+                scale 0 1000000
+                about 0 0 = 7500
+                about 0 1 = 2500
+                about 0 2 = 10
+                about 0 5 = 10000
+                shift 1 = 10000
+                shift 2 = 0
+                carbon = 3750
+                """);
+    }
+
+    private static void lost() {
+        Runs.run("shift: LOST is over bins with a reading in this shift", """
+                bin 0 100 = 0
+                bin 1 100 = 1
+                bin 2 100 = 2
+                pour 0 50 500 = true
+                pour 1 20 100 = true
+                pour 2 90 0 = true
+                shift 0 = 0
+                scale 0 49000
+                shift 0 = 1000
+                scale 1 19500
+                shift 0 = 1500
+                begin
+                shift 0 = 0
+                scale 1 19500
+                shift 0 = 500
+                """);
+        Runs.run("shift: LOST by the latest reading of a bin", """
+                bin 0 100 = 0
+                pour 0 50 500 = true
+                scale 0 1
+                scale 0 49999
+                shift 0 = 1
+                scale 0 50000
+                shift 0 = 0
+                """);
+        Runs.run("shift: a reading of 0 is a reading", """
+                bin 0 100 = 0
+                pour 0 50 500 = true
+                scale 0 0
+                shift 0 = 50000
+                """);
+        Runs.run("shift: a reading above what the bin has makes LOST less, below 0 too", """
+                bin 0 100 = 0
+                bin 0 100 = 1
+                scale 0 1
+                shift 0 = -1
+                pour 1 1 0 = true
+                scale 1 0
+                shift 0 = 999
+                """);
+        Runs.run("shift: LOST is by what the bin has, whatever came or went behind the reading", """
+                bin 0 100 = 0
+                pour 0 50 500 = true
+                scale 0 50000
+                pour 0 10 0 = true
+                shift 0 = 10000
+                burn 0 20 0 = 196674
+                shift 0 = -10000
+                """);
+        StringBuilder all = new StringBuilder();
+        for (int bin = 0; bin < 8; bin++) {
+            all.append("bin 0 1 = ").append(bin).append("\nscale ").append(bin).append(" 1000000000000\n");
+        }
+        Runs.run("shift: LOST of eight bins and the largest readings", all + "shift 0 = -8*1000000000000");
+        Runs.run("shift: the first and the last bin count", all.toString().replace("1000000000000", "0") + """
+                pour 0 1 0 = true
+                shift 0 = 1000
+                pour 7 1 0 = true
+                shift 0 = 2000
+                """);
     }
 
     private static void inAndOut() {
-        ResidueFlows x = new ResidueFlows();
-        for (int i = 0; i < 3; i++) {
-            x.bin(0, 1000);
-        }
-        x.screen(0, 0, 1, 2, 20, 20);
-        x.pour(0, 100, 500);
-        x.send(0, 31, 7);
-        x.pour(1, 1001, 0);
-        Check.equal("IN", x.shift(1), 131000);
-        Check.equal("OUT before anything went", x.shift(2), 0);
-        x.burn(0, 10, 0);
-        Check.equal("OUT with what was burned", x.shift(2), 10000);
-        x.sell(0, 3, 0);
-        Check.equal("OUT with what was sold", x.shift(2), 13000);
-        x.mix(0, 1, 5);
-        Check.equal("OUT with what was mixed away", x.shift(2), 18000);
-        x.span(1, 1000, 1000);
-        Check.equal("a mix out of the span", x.mix(0, 1, 5), false);
-        Check.equal("OUT without what was not mixed", x.shift(2), 18000);
-        Check.equal("IN is what was poured alone", x.shift(1), 131000);
-        Check.equal("LOST without a reading", x.shift(0), 0);
+        String bins = """
+                bin 0 1000 = 0
+                bin 0 1000 = 1
+                bin 0 1000 = 2
+                """;
+        Runs.run("shift: IN is what was poured, water too", bins + """
+                pour 0 100 500 = true
+                shift 1 = 100000
+                pour 1 1 1000 = true
+                shift 1 = 101000
+                pour 1 0 1000 = true
+                pour 1 1000 0 = false
+                shift 1 = 101000
+                shift 2 = 0
+                """);
+        Runs.run("shift: IN is what a screen sent, too", bins + """
+                screen 0 0 1 2 20 20
+                send 0 31 7 = true
+                shift 1 = 31000
+                send 0 1000000 7 = false
+                shift 1 = 31000
+                """);
+        Runs.run("shift: OUT is what was sold, burned or mixed away", bins + """
+                pour 0 100 500 = true
+                burn 0 10 0 = 80000
+                shift 2 = 10000
+                sell 0 3 0 = 0
+                shift 2 = 13000
+                mix 0 1 5 = true
+                shift 2 = 18000
+                shift 1 = 100000
+                """);
+        Runs.run("shift: OUT is not what was refused", bins + """
+                pour 0 100 500 = true
+                span 1 0 499
+                mix 0 1 5 = false
+                burn 0 101 0 = STATE
+                sell 0 101 0 = STATE
+                mix 0 1 101 = STATE
+                shift 2 = 0
+                """);
+    }
+
+    private static void edgesOfShift() {
+        Runs.run("shift: there is no such what", """
+                shift -1 = INDEX
+                shift 0 = 0
+                shift 3 = 0
+                shift 4 = INDEX
+                shift 2147483647 = INDEX
+                shift -2147483648 = INDEX
+                """);
+        Runs.run("shift: how many shifts were begun behind the first one", """
+                shift 3 = 0
+                begin
+                shift 3 = 1
+                begin
+                begin
+                shift 3 = 3
+                """);
     }
 
     private static void begins() {
-        ResidueFlows x = new ResidueFlows();
-        x.bin(0, 100);
-        x.pour(0, 50, 500);
-        x.burn(0, 1, 0);
-        x.scale(0, 5);
-        Check.equal("shifts begun", x.shift(3), 0);
-        x.begin();
-        for (int what = 0; what < 3; what++) {
-            Check.equal("shift(" + what + ") of a new shift", x.shift(what), 0);
-        }
-        Check.equal("shifts begun", x.shift(3), 1);
-        Check.equal("no reading in this shift", x.about(0, 4), -1);
-        Check.equal("the bin stays", x.about(0, 5), 49000);
-        x.pour(0, 2, 0);
-        x.sell(0, 1, 1);
-        x.scale(0, 49999);
-        Check.equal("LOST of this shift", x.shift(0), 1);
-        Check.equal("IN of this shift", x.shift(1), 2000);
-        Check.equal("OUT of this shift", x.shift(2), 1000);
-        x.begin();
-        x.begin();
-        Check.equal("shifts begun", x.shift(3), 3);
-        x.log(1, 0, 0);
-        x.begin();
-        Check.equal("a log stays", x.volume(0, false), 6350400);
-    }
-
-    private static void wrongInputs() {
-        ResidueFlows x = new ResidueFlows();
-        Check.outOfBounds(x, "scale without a bin", () -> x.scale(0, 1));
-        x.bin(0, 100);
-        Check.outOfBounds(x, "scale(1, -1)", () -> x.scale(1, -1));
-        Check.outOfBounds(x, "scale(-1, 1)", () -> x.scale(-1, 1));
-        Check.badArgument(x, "scale(0, -1)", () -> x.scale(0, -1));
-        Check.badArgument(x, "scale(0, 10^12 + 1)", () -> x.scale(0, 1000000000001L));
-        Check.badArgument(x, "scale(0, the least)", () -> x.scale(0, Long.MIN_VALUE));
-        Check.outOfBounds(x, "shift(-1)", () -> x.shift(-1));
-        Check.outOfBounds(x, "shift(4)", () -> x.shift(4));
+        Runs.run("begin: a new SHIFT has no LOST, IN, OUT and readings", """
+                bin 0 100 = 0
+                pour 0 50 500 = true
+                burn 0 1 0 = 8000
+                scale 0 5
+                begin
+                shift 0 = 0
+                shift 1 = 0
+                shift 2 = 0
+                about 0 4 = NONE
+                pour 0 2 0 = true
+                sell 0 1 1 = 0
+                scale 0 49999
+                shift 0 = 1
+                shift 1 = 2000
+                shift 2 = 1000
+                """);
+        Runs.run("begin: no reading of any of the eight bins is left", """
+                bin 0 1 = 0
+                bin 0 1 = 1
+                bin 0 1 = 2
+                bin 0 1 = 3
+                bin 0 1 = 4
+                bin 0 1 = 5
+                bin 0 1 = 6
+                bin 0 1 = 7
+                scale 0 1
+                scale 3 1
+                scale 7 1
+                begin
+                about 0 4 = NONE
+                about 3 4 = NONE
+                about 7 4 = NONE
+                """);
+        Runs.run("begin: logs, bins, screens, shares, ROWS and spans stay", """
+                share 0 1 2
+                share 1 1 2
+                log 4 0 0 = 0
+                bin 1 100 = 0
+                bin 1 200 = 1
+                bin 1 300 = 2
+                pour 0 50 500 = true
+                screen 2 0 1 2 0 60
+                span 1 0 0
+                row 5 10 = 1
+                begin
+                volume 0 false = 2*63504000
+                log 4 0 0 = 1
+                volume 3 true = 2*63504000
+                about 0 0 = 25000
+                about 0 1 = 25000
+                about 1 2 = 200
+                about 2 3 = 1
+                send 2 1 0 = true
+                about 1 5 = 1000
+                mix 0 1 1 = false
+                pour 2 1 0 = true
+                burn 2 1 4 = 19000
+                burn 1 1 5 = 1900
+                row 6 10 = 2
+                bin 0 1 = 3
+                """);
     }
 }
