@@ -6,6 +6,7 @@ public final class BinTest {
         edgesOfPour();
         fullBins();
         edgesOfAbout();
+        theEighthBin();
         Check.end();
     }
 
@@ -239,6 +240,42 @@ public final class BinTest {
                 about 0 4 = 10*100000000000
                 begin
                 about 0 4 = NONE
+                """);
+    }
+
+    private static void theEighthBin() {
+        StringBuilder eight = new StringBuilder();
+        for (int bin = 0; bin < 8; bin++) {
+            eight.append("bin 1 10 = ").append(bin).append('\n');
+        }
+        Runs.run("BINS 0 .. 7: the eighth is there for every call, a ninth for none", eight + """
+                pour 7 10 0 = true
+                pour 8 10 0 = INDEX
+                about 7 0 = 10000
+                about 8 0 = INDEX
+                scale 7 9000
+                scale 8 9000 = INDEX
+                shift 0 = 1000
+                burn 7 1 0 = 19000
+                burn 8 1 0 = INDEX
+                sell 7 1 1000 = 1
+                sell 8 1 1000 = INDEX
+                mix 7 0 2 = true
+                mix 8 0 2 = INDEX
+                mix 0 7 1 = true
+                mix 0 8 1 = INDEX
+                span 7 1 1
+                span 8 1 1 = INDEX
+                mix 0 7 1 = false
+                screen 0 5 6 7 20 20
+                screen 0 5 6 8 20 20 = INDEX
+                screen 0 7 5 6 60 0
+                screen 0 8 5 6 60 0 = INDEX
+                screen 0 5 7 6 0 60
+                screen 0 5 8 6 0 60 = INDEX
+                send 0 3 0 = true
+                about 7 5 = 10000
+                carbon = 5500
                 """);
     }
 }
